@@ -270,11 +270,10 @@ public final class MixDesk {
         joins.forgetJoinsOf(s);
     }
 
-    /** What it costs to go from the night's song i to each other one, and whether it may begin or end the night. */
+    /** What it costs to go from the night's song i to each other one, and whether it may begin the night. */
     private void weighSteps(int i, int n) {
         Song from = nights.songs[i];
         nights.mayBegin[i] = mustsInto(from.number) == 0;
-        nights.mayEnd[i] = mustsOutOf(from.number) == 0;
         for (int j = 0; j < nights.count; j++) {
             Song into = nights.songs[j];
             boolean open = i != j && wishAllows(from.number, into.number);
@@ -282,18 +281,13 @@ public final class MixDesk {
         }
     }
 
+    /**
+     * Each song is begun with, or comes behind one other song: so MUSTS are kept
+     * if a song with a MUST into it never begins, and comes behind nothing else.
+     */
     private boolean wishAllows(int a, int b) {
         int wish = wishes[a * SONGS + b];
-        int wanted = wish == MUST ? 1 : 0;
-        return wish != MUST_NOT && mustsOutOf(a) == wanted && mustsInto(b) == wanted;
-    }
-
-    private int mustsOutOf(int a) {
-        int count = 0;
-        for (int b = 0; b < SONGS; b++) {
-            count += wishes[a * SONGS + b] == MUST ? 1 : 0;
-        }
-        return count;
+        return wish != MUST_NOT && mustsInto(b) == (wish == MUST ? 1 : 0);
     }
 
     private int mustsInto(int b) {
@@ -684,7 +678,6 @@ public final class MixDesk {
         int count = 0;
         final int[] step = new int[SONGS * SONGS];
         final boolean[] mayBegin = new boolean[SONGS];
-        final boolean[] mayEnd = new boolean[SONGS];
         /** The least that is still to pay once a set of songs has been played, by set and song played last. */
         int[] rest = new int[0];
         int cost = NEVER;
@@ -709,7 +702,7 @@ public final class MixDesk {
                 rest = new int[(full + 1) * count];
             }
             for (int last = 0; last < count; last++) {
-                rest[full * count + last] = mayEnd[last] ? 0 : NEVER;
+                rest[full * count + last] = 0;
             }
             for (int set = full - 1; set > 0; set--) {
                 weighSet(set);
