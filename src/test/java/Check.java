@@ -8,6 +8,21 @@ final class Check {
         title = newTitle;
     }
 
+    /** A new object, for answers under this title. */
+    MixDesk desk(String newTitle) {
+        title(newTitle);
+        return new MixDesk();
+    }
+
+    /** With even songs, numbered from 0 on, 8 BARS each, of these steps. */
+    MixDesk deskOf(String newTitle, int... steps) {
+        MixDesk x = desk(newTitle);
+        for (int s = 0; s < steps.length; s++) {
+            due("song " + s, x.song(s, 0, 8, steps[s], 0), true);
+        }
+        return x;
+    }
+
     void due(String call, long got, long want) {
         looked++;
         if (got != want) {

@@ -35,22 +35,8 @@ public final class PromiseTest {
         check.end();
     }
 
-    private static MixDesk desk(String title) {
-        check.title(title);
-        return new MixDesk();
-    }
-
-    /** Even songs, numbered from 0 on, 8 BARS each, of these steps. */
-    private static MixDesk deskOf(String title, int... steps) {
-        MixDesk x = desk(title);
-        for (int s = 0; s < steps.length; s++) {
-            check.due("song " + s, x.song(s, 0, 8, steps[s], 0), true);
-        }
-        return x;
-    }
-
     private static void newObject() {
-        MixDesk x = desk("1 a new object");
+        MixDesk x = check.desk("1 a new object");
         check.due("NONE", MixDesk.NONE, -1);
         for (int s = 0; s < 12; s++) {
             check.due("of", x.of(s, 0), -1000);
@@ -66,7 +52,7 @@ public final class PromiseTest {
     }
 
     private static void song() {
-        MixDesk x = desk("2 song");
+        MixDesk x = check.desk("2 song");
         check.due("least", x.song(0, 0, 2, 20, 0), true);
         check.due("most", x.song(11, 0, 64, 400, 0), true);
         for (int s : WILD) {
@@ -94,7 +80,7 @@ public final class PromiseTest {
     }
 
     private static void songForgets() {
-        MixDesk x = deskOf("2 what was told of a song goes", 100, 104, 108);
+        MixDesk x = check.deskOf("2 what was told of a song goes", 100, 104, 108);
         x.about(0, 7, 8, 9);
         x.bar(0, 2, 1);
         x.loop(0, 0, 1, 3);
@@ -117,7 +103,7 @@ public final class PromiseTest {
     }
 
     private static void about() {
-        MixDesk x = deskOf("3 about", 100);
+        MixDesk x = check.deskOf("3 about", 100);
         check.due("none such", x.about(1, 0, 0, 4), false);
         for (int s : WILD) {
             check.due("about " + s, x.about(s, 0, 0, 4), false);
@@ -139,7 +125,7 @@ public final class PromiseTest {
     }
 
     private static void bar() {
-        MixDesk x = deskOf("4 bar", 100);
+        MixDesk x = check.deskOf("4 bar", 100);
         check.due("none such", x.bar(1, 0, 2), false);
         for (int wild : WILD) {
             check.due("song " + wild, x.bar(wild, 0, 2), false);
@@ -162,7 +148,7 @@ public final class PromiseTest {
     }
 
     private static void loop() {
-        MixDesk x = deskOf("5 loop", 100);
+        MixDesk x = check.deskOf("5 loop", 100);
         check.due("none such", x.loop(1, 0, 1, 2), false);
         for (int wild : WILD) {
             check.due("song " + wild, x.loop(wild, 0, 1, 2), false);
@@ -197,7 +183,7 @@ public final class PromiseTest {
     }
 
     private static void drop() {
-        MixDesk x = deskOf("6 drop", 100, 104, 108);
+        MixDesk x = check.deskOf("6 drop", 100, 104, 108);
         for (int wild : WILD) {
             check.due("drop " + wild, x.drop(wild), false);
         }
@@ -213,7 +199,7 @@ public final class PromiseTest {
     }
 
     private static void of() {
-        MixDesk x = desk("7 of");
+        MixDesk x = check.desk("7 of");
         x.song(5, 1, 10, 120, 17);
         x.about(5, 13, 4, 3);
         x.bar(5, 2, 1);
@@ -242,7 +228,7 @@ public final class PromiseTest {
     }
 
     private static void beat() {
-        MixDesk x = desk("8 beat");
+        MixDesk x = check.desk("8 beat");
         x.song(0, 0, 4, 100, 0);
         check.due("even", x.beat(0, 3), 300);
         check.due("end", x.beat(0, 16), 1600);
@@ -283,7 +269,7 @@ public final class PromiseTest {
     }
 
     private static void played() {
-        MixDesk x = desk("9 played");
+        MixDesk x = check.desk("9 played");
         x.song(0, 2, 5, 100, 16);
         x.bar(0, 1, 2);
         x.loop(0, 1, 2, 2);
@@ -310,7 +296,7 @@ public final class PromiseTest {
     }
 
     private static void length() {
-        MixDesk x = desk("10 length");
+        MixDesk x = check.desk("10 length");
         x.song(0, 1, 3, 100, 50);
         check.due("without", x.length(0), 1200);
         // the middle BAR has BEATS 4, 5, 6 of 150, 50, 150
@@ -325,7 +311,7 @@ public final class PromiseTest {
     }
 
     private static void stroke() {
-        MixDesk x = desk("11 stroke");
+        MixDesk x = check.desk("11 stroke");
         check.due("below 0", x.stroke(-1), -1);
         check.due("too late", x.stroke(1000001), -1);
         check.due("first", x.stroke(0), 1);
@@ -345,7 +331,7 @@ public final class PromiseTest {
     }
 
     private static void clear() {
-        MixDesk x = desk("12 clear");
+        MixDesk x = check.desk("12 clear");
         check.due("none", x.clear(), 0);
         x.stroke(7);
         x.stroke(9);
@@ -355,7 +341,7 @@ public final class PromiseTest {
     }
 
     private static void find() {
-        MixDesk x = desk("13 find");
+        MixDesk x = check.desk("13 find");
         check.due("no strokes", x.find(100, 0, 0), -1);
         x.stroke(0);
         check.due("one", x.find(10, 10000, 10000), 0);
@@ -402,7 +388,7 @@ public final class PromiseTest {
     }
 
     private static void findTies() {
-        MixDesk x = desk("13 of equal ways the first one");
+        MixDesk x = check.desk("13 of equal ways the first one");
         for (int tick : new int[] {0, 90, 110, 200}) {
             x.stroke(tick);
         }
@@ -438,7 +424,7 @@ public final class PromiseTest {
     }
 
     private static void found() {
-        MixDesk x = desk("14 found");
+        MixDesk x = check.desk("14 found");
         x.stroke(1);
         x.stroke(50);
         x.stroke(101);
@@ -459,7 +445,7 @@ public final class PromiseTest {
     }
 
     private static void costs() {
-        MixDesk x = deskOf("15 costs", 100, 100);
+        MixDesk x = check.deskOf("15 costs", 100, 100);
         x.about(0, 0, 0, 4);
         x.about(1, 2, 3, 4);
         check.due("at first", x.join(0, 1, 1, 0, 0, false), 2 * 10 + 3 * 5);
@@ -492,7 +478,7 @@ public final class PromiseTest {
     }
 
     private static void joinCost() {
-        MixDesk x = deskOf("16 join: what keys and heats cost", 100, 100);
+        MixDesk x = check.deskOf("16 join: what keys and heats cost", 100, 100);
         int[][] keys = {{0, 0, 0}, {0, 12, 1}, {0, 6, 6}, {0, 7, 5}, {0, 11, 1}, {0, 23, 2}, {12, 23, 1}, {23, 1, 3}, {18, 0, 7}};
         for (int[] pair : keys) {
             x.about(0, pair[0], 2, 4);
@@ -503,7 +489,7 @@ public final class PromiseTest {
     }
 
     private static void joinRefused() {
-        MixDesk x = deskOf("16 join refused", 100, 104, 150);
+        MixDesk x = check.deskOf("16 join refused", 100, 104, 150);
         for (int wild : WILD) {
             check.due("a " + wild, x.join(wild, 1, 1, 0, 0, false), -1);
             check.due("b " + wild, x.join(0, wild, 1, 0, 0, false), -1);
@@ -542,7 +528,7 @@ public final class PromiseTest {
     }
 
     private static void joinBlend() {
-        MixDesk x = desk("16 join: beats bent");
+        MixDesk x = check.desk("16 join: beats bent");
         x.song(0, 2, 4, 100, 16);
         x.song(1, 0, 4, 108, 0);
         x.loop(0, 0, 0, 2);
@@ -570,7 +556,7 @@ public final class PromiseTest {
     }
 
     private static void meets() {
-        MixDesk x = deskOf("17 meets", 100, 104);
+        MixDesk x = check.deskOf("17 meets", 100, 104);
         check.due("none yet", x.meets(0, 0), -1);
         check.due("best is no join told", x.best(0, 1, 1, 0), 16);
         check.due("none yet", x.meets(0, 0), -1);
@@ -601,7 +587,7 @@ public final class PromiseTest {
     }
 
     private static void best() {
-        MixDesk x = deskOf("18 best", 100, 104, 150);
+        MixDesk x = check.deskOf("18 best", 100, 104, 150);
         for (int wild : WILD) {
             check.due("a " + wild, x.best(wild, 1, 1, 0), -1);
             check.due("b " + wild, x.best(0, wild, 1, 0), -1);
@@ -657,7 +643,7 @@ public final class PromiseTest {
     }
 
     private static void bestFollowsChanges() {
-        MixDesk x = deskOf("18 best follows what is told", 100, 104);
+        MixDesk x = check.deskOf("18 best follows what is told", 100, 104);
         check.due("first", x.best(0, 1, 1, 0), 16);
         x.about(1, 3, 0, 4);
         check.due("key", x.best(0, 1, 1, 0), 46);
@@ -683,7 +669,7 @@ public final class PromiseTest {
     }
 
     private static void must() {
-        MixDesk x = deskOf("19 must", 100, 104, 108);
+        MixDesk x = check.deskOf("19 must", 100, 104, 108);
         for (int wild : WILD) {
             check.due("a " + wild, x.must(wild, 1, 1), false);
             check.due("b " + wild, x.must(0, wild, 1), false);
@@ -715,7 +701,7 @@ public final class PromiseTest {
     }
 
     private static void night() {
-        MixDesk x = desk("20 night");
+        MixDesk x = check.desk("20 night");
         check.due("no songs", x.night(1), -1);
         x.song(9, 0, 2, 100, 0);
         check.due("n 0", x.night(0), -1);
@@ -744,7 +730,7 @@ public final class PromiseTest {
     }
 
     private static void nightTies() {
-        MixDesk x = desk("20 of equal nights the first one");
+        MixDesk x = check.desk("20 of equal nights the first one");
         for (int s = 0; s < 12; s++) {
             x.song(s, 0, 4, 100, 0);
         }
@@ -766,7 +752,7 @@ public final class PromiseTest {
     }
 
     private static void order() {
-        MixDesk x = deskOf("21 order", 100, 104);
+        MixDesk x = check.deskOf("21 order", 100, 104);
         check.due("none yet", x.order(0), -1);
         check.due("best is no night", x.best(0, 1, 1, 0), 16);
         check.due("none yet", x.order(0), -1);
@@ -792,7 +778,7 @@ public final class PromiseTest {
     }
 
     private static void mend() {
-        MixDesk x = desk("22 mend");
+        MixDesk x = check.desk("22 mend");
         check.due("0", x.mend(0, 20), 0);
         check.due("step 19", x.mend(0, 19), -1);
         check.due("step 401", x.mend(0, 401), -1);
