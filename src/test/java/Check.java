@@ -37,6 +37,10 @@ final class Check {
         due(call, got ? 1 : 0, want ? 1 : 0);
     }
 
+    int looked() {
+        return looked;
+    }
+
     int wrong() {
         return wrong;
     }

@@ -1,9 +1,13 @@
 import java.util.Random;
 
-/** Runs of calls drawn by fixed seeds: MixDesk must answer each as the slow Model does. */
+/** Runs of 512 calls at most, drawn by fixed seeds: MixDesk must answer each as the slow Model does. */
 public final class ModelTest {
     private static final int[] WILD = {Integer.MIN_VALUE, -100001, -1000, -2, -1, 0, 1, 9, 12, 16, 64, 65, 257, 1001,
         10001, 100001, 1000001, Integer.MAX_VALUE};
+
+    private static final int MOST_CALLS = 512;
+    /** The most calls that one step of a run makes. */
+    private static final int STEP_CALLS = 72;
 
     private final Check check = new Check();
     private Random random;
@@ -11,9 +15,10 @@ public final class ModelTest {
     private Model model;
     private int songs;
     private int style;
+    private int focus;
 
     public static void main(String[] args) {
-        int runs = args.length > 1 ? Integer.parseInt(args[1]) : 60;
+        int runs = args.length > 1 ? Integer.parseInt(args[1]) : 400;
         int seed = args.length > 2 ? Integer.parseInt(args[2]) : 0;
         ModelTest test = new ModelTest();
         for (int run = 0; run < runs && test.check.wrong() == 0; run++) {
@@ -29,8 +34,11 @@ public final class ModelTest {
         model = new Model();
         songs = seed % 10 == 0 ? 12 : 1 + random.nextInt(6);
         style = random.nextInt(4);
-        for (int call = 0; call < 512; call++) {
-            int kind = call < 2 * songs ? call % 2 : random.nextInt(40);
+        focus = random.nextInt(4);
+        lastTick = 0;
+        int before = check.looked();
+        for (int step = 0; check.looked() - before <= MOST_CALLS - STEP_CALLS; step++) {
+            int kind = step < 2 * songs ? step % 2 : drawKind();
             if (kind < 12) {
                 tell(kind);
             } else if (kind < 20) {
@@ -40,6 +48,18 @@ public final class ModelTest {
             } else {
                 lead(kind);
             }
+        }
+    }
+
+    /** A run asks for much of one part, so that its 512 calls lead deep into it, and for something of all. */
+    private int drawKind() {
+        if (focus == 0 || random.nextInt(3) == 0) {
+            return random.nextInt(40);
+        }
+        switch (focus) {
+            case 1: return random.nextInt(20);
+            case 2: return 20 + random.nextInt(7);
+            default: return random.nextInt(3) == 0 ? random.nextInt(12) : 27 + random.nextInt(13);
         }
     }
 
@@ -155,7 +175,9 @@ public final class ModelTest {
                 int miss = random.nextInt(4) == 0 ? pick(0, 10000) : pick(0, 40);
                 int skip = random.nextInt(4) == 0 ? pick(0, 10000) : pick(0, 60);
                 check.due("find " + gap + " " + miss + " " + skip, desk.find(gap, miss, skip), model.find(gap, miss, skip));
-                for (int k = -1; k <= 60; k++) {
+                boolean all = random.nextInt(4) == 0;
+                for (int i = 0; i < (all ? 62 : 10); i++) {
+                    int k = all ? i - 1 : random.nextBoolean() ? pick(0, 8) : pick(0, 59);
                     check.due("found " + k, desk.found(k), model.found(k));
                 }
             }
@@ -180,10 +202,10 @@ public final class ModelTest {
                 boolean phrases = random.nextInt(3) == 0;
                 check.due("join " + a + " " + b + " " + n + " " + p + " " + q, desk.join(a, b, n, p, q, phrases),
                         model.join(a, b, n, p, q, phrases));
-                for (int what = -1; what <= 3; what++) {
-                    for (int j = -1; j <= 33; j++) {
-                        check.due("meets " + j + " " + what, desk.meets(j, what), model.meets(j, what));
-                    }
+                for (int i = 0; i < 24; i++) {
+                    int j = random.nextBoolean() ? pick(0, 4 * Math.max(1, Math.min(n, 8))) : pick(0, 33);
+                    int what = pick(0, 2);
+                    check.due("meets " + j + " " + what, desk.meets(j, what), model.meets(j, what));
                 }
                 return;
             }
