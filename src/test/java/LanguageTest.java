@@ -1,9 +1,11 @@
 import com.sun.source.tree.ClassTree;
 import com.sun.source.tree.CompilationUnitTree;
+import com.sun.source.tree.ForLoopTree;
 import com.sun.source.tree.ImportTree;
 import com.sun.source.tree.MemberSelectTree;
 import com.sun.source.tree.MethodInvocationTree;
 import com.sun.source.tree.MethodTree;
+import com.sun.source.tree.NewArrayTree;
 import com.sun.source.tree.NewClassTree;
 import com.sun.source.tree.Tree;
 import com.sun.source.tree.VariableTree;
@@ -12,7 +14,9 @@ import com.sun.source.util.TreeScanner;
 import java.io.File;
 import java.util.ArrayList;
 import java.util.List;
+import java.util.Map;
 import java.util.Set;
+import java.util.TreeMap;
 import java.util.TreeSet;
 import javax.lang.model.element.Modifier;
 import javax.tools.JavaCompiler;
@@ -24,7 +28,12 @@ public final class LanguageTest extends TreeScanner<Void, ClassTree> {
     private static final Set<String> FACE = Set.of("NONE", "<init>", "song", "about", "bar", "loop", "drop", "of", "beat",
         "played", "length", "stroke", "clear", "find", "found", "costs", "join", "meets", "best", "must", "night", "order", "mend");
     private static final Set<Tree.Kind> RULED_OUT = Set.of(Tree.Kind.THROW, Tree.Kind.TRY, Tree.Kind.CATCH,
-        Tree.Kind.SYNCHRONIZED, Tree.Kind.ASSERT, Tree.Kind.LAMBDA_EXPRESSION, Tree.Kind.MEMBER_REFERENCE);
+        Tree.Kind.SYNCHRONIZED, Tree.Kind.ASSERT, Tree.Kind.LAMBDA_EXPRESSION, Tree.Kind.MEMBER_REFERENCE,
+        // allowed where they end and are safe, but the program does without them
+        Tree.Kind.WHILE_LOOP, Tree.Kind.DO_WHILE_LOOP, Tree.Kind.TYPE_CAST, Tree.Kind.INSTANCE_OF);
+    private static final Set<String> TYPES = Set.of("int", "boolean", "int[]", "boolean[]", "void", "Song", "Song[]", "Strokes",
+        "Joins", "Meeting", "Nights");
+    private static final int DEEPEST = 8;
     private static final Set<String> LIBRARY = Set.of("Math.max", "Math.min", "Math.abs", "Math.floorDiv", "Arrays.fill");
 
     private final List<String> faults = new ArrayList<>();
@@ -33,6 +42,10 @@ public final class LanguageTest extends TreeScanner<Void, ClassTree> {
     private final JavacTask task;
     private CompilationUnitTree unit;
     private int classes = 0;
+    private int loops = 0;
+    private String method = "";
+    /** Which methods and makers each one calls; those of one name are taken for one. */
+    private final Map<String, Set<String>> calls = new TreeMap<>();
 
     private LanguageTest(JavacTask task, CharSequence source) {
         this.task = task;
@@ -66,6 +79,20 @@ public final class LanguageTest extends TreeScanner<Void, ClassTree> {
         }
         scan(unit.getTypeDecls(), null);
         ask(classes <= 12, "more than twelve classes");
+        for (String name : calls.keySet()) {
+            ask(deep(name, 1) <= DEEPEST, name + " calls more than " + DEEPEST + " deep, or itself");
+        }
+    }
+
+    /** How many calls stand open at once behind this one; more than are allowed if it comes back to itself. */
+    private int deep(String name, int open) {
+        int deepest = open;
+        if (open <= DEEPEST) {
+            for (String called : calls.getOrDefault(name, Set.of())) {
+                deepest = Math.max(deepest, deep(called, open + 1));
+            }
+        }
+        return deepest;
     }
 
     private void lookAtFace(ClassTree type) {
@@ -109,7 +136,9 @@ public final class LanguageTest extends TreeScanner<Void, ClassTree> {
                 Set<Modifier> flags = field.getModifiers().getFlags();
                 fields += flags.contains(Modifier.STATIC) ? 0 : 1;
                 ask(!flags.contains(Modifier.STATIC) || flags.contains(Modifier.FINAL), field + " static, not final");
+                ask(!flags.contains(Modifier.STATIC) || field.getType().toString().equals("int"), field + " static, no int");
             }
+            ask(member.getKind() != Tree.Kind.BLOCK, type.getSimpleName() + " has an initialiser block");
         }
         ask(fields <= 20, type.getSimpleName() + " has " + fields + " fields");
         return super.visitClass(type, type);
@@ -122,12 +151,42 @@ public final class LanguageTest extends TreeScanner<Void, ClassTree> {
         ask(method.getParameters().size() <= 7, name + " has too many parameters");
         ask(lines(method) <= 60, name + " is too long");
         ask(flags.contains(Modifier.PUBLIC) || name.equals("<init>") || !FACE.contains(name), name + " bears a public name");
-        return super.visitMethod(method, within);
+        ask(method.getReturnType() == null || TYPES.contains(method.getReturnType().toString()), name + " returns " + method.getReturnType());
+        this.method = name.equals("<init>") ? "new " + within.getSimpleName() : name;
+        calls.putIfAbsent(this.method, new TreeSet<>());
+        Void done = super.visitMethod(method, within);
+        this.method = "";
+        return done;
+    }
+
+    @Override
+    public Void visitVariable(VariableTree variable, ClassTree within) {
+        ask(TYPES.contains(variable.getType().toString()), variable + " is of another type");
+        return super.visitVariable(variable, within);
+    }
+
+    @Override
+    public Void visitForLoop(ForLoopTree loop, ClassTree within) {
+        ask(loop.getCondition() != null && loop.getUpdate().size() == 1, "a loop whose end can't be seen: " + loop);
+        loops++;
+        Void done = super.visitForLoop(loop, within);
+        loops--;
+        return done;
+    }
+
+    @Override
+    public Void visitNewArray(NewArrayTree made, ClassTree within) {
+        ask(loops == 0, "an array made in a loop: " + made);
+        return super.visitNewArray(made, within);
     }
 
     @Override
     public Void visitNewClass(NewClassTree made, ClassTree within) {
         ask(made.getClassBody() == null, "a class without a name");
+        ask(loops == 0, "an object made in a loop: " + made);
+        if (!method.isEmpty()) {
+            calls.get(method).add("new " + made.getIdentifier());
+        }
         return super.visitNewClass(made, within);
     }
 
@@ -136,6 +195,10 @@ public final class LanguageTest extends TreeScanner<Void, ClassTree> {
         if (call.getMethodSelect() instanceof MemberSelectTree select
                 && Character.isUpperCase(select.getExpression().toString().charAt(0))) {
             ask(LIBRARY.contains(select.toString()), "a call of " + select);
+        }
+        if (!method.isEmpty()) {
+            String name = call.getMethodSelect().toString();
+            calls.get(method).add(name.substring(name.lastIndexOf('.') + 1));
         }
         return super.visitMethodInvocation(call, within);
     }
